@@ -1,0 +1,45 @@
+/** What the tests share: answers that are due, counted, and texts fed sign by sign. */
+final class Due {
+    private static int passed = 0;
+    private static int failed = 0;
+
+    private Due() {
+    }
+
+    static void due(String what, long got, long want) {
+        if (got == want) {
+            passed++;
+            return;
+        }
+        failed++;
+        System.out.println(what + " answered " + got + ", due is " + want);
+    }
+
+    static void feed(WhoSitsBy x, String text) {
+        for (int i = 0; i < text.length(); i++) {
+            x.feed(text.charAt(i));
+        }
+    }
+
+    /** Feeds a text, and answers what room() says of it. */
+    static int room(WhoSitsBy x, String text) {
+        feed(x, text);
+        return x.room();
+    }
+
+    /** A new object with so many pupils of kind 0 that are all alike. */
+    static WhoSitsBy withPupils(int n) {
+        WhoSitsBy x = new WhoSitsBy();
+        for (int i = 0; i < n; i++) {
+            x.pupil(0, 0, 0, 0, 0);
+        }
+        return x;
+    }
+
+    static void end(String test) {
+        System.out.println(test + ": " + passed + " answers as due, " + failed + " not");
+        if (failed != 0) {
+            System.exit(1);
+        }
+    }
+}
