@@ -56,6 +56,7 @@ public final class LotsTest {
         Due.due("three and two: the fewest", naming(1, 2, 0, 4, 3).slips(1), 24);
         Due.due("four, and two with two behind", naming(1, 2, 3, 0, 5, 4, 4, 6).slips(1), 15);
         Due.due("all eight", naming(1, 2, 3, 4, 5, 6, 7, 0).slips(1), 255);
+        Due.due("0 from without", naming(1, 2, 1).slips(1), 7);
         Due.due("one names nobody", naming(1, 0, -1, 2).slips(1), 3);
     }
 
@@ -68,6 +69,9 @@ public final class LotsTest {
         x.sit(0, 3);
         Due.due("0 by 2; 3 by 4", x.month(), 2);
         Due.due("put down", x.count(2), 5);
+        x.sit(1, 6);
+        x.sit(3, 7);
+        Due.due("1 by 3 at the last desk", x.month(), 1);
         Due.due("nobody", new WhoSitsBy().month(), 0);
     }
 

@@ -240,6 +240,10 @@ public final class RoomsTest {
         x.sit(3, 0);
         Due.due("nobody at the other desk", x.pair(0, 1, 0, 3), -2);
         Due.due("others bear nothing", x.pair(1, 0, 0, 3), 0);
+        x.sit(0, 3);
+        Due.due("3 and 1 at the first desk, 0 at the second", x.pair(0, 1, 0, 3), -10);
+        x.sit(3, 7);
+        Due.due("2 beside, 1 at the first", x.pair(0, 1, 0, 3), -6);
     }
 
     private static void promise9Refused() {

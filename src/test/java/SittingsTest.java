@@ -6,6 +6,7 @@ public final class SittingsTest {
         promise10Breaks();
         promise11Swap();
         promise11SwapOrder();
+        promise11SwapNext();
         promise12Best();
         promise12Refused();
         promise13Cost();
@@ -46,6 +47,19 @@ public final class SittingsTest {
         x.sit(0, 6);
         x.sit(2, 7);
         Due.due("in the back", x.sitting(0), -10);
+        x.sit(1, 1);
+        x.sit(3, 3);
+        Due.due("nobody at the other desk in the back", x.sitting(0), -2);
+        x = new WhoSitsBy();
+        x.pupil(5, 4, 2, 0, 0);
+        x.pupil(5, 3, 1, 0, 0);
+        x.pupil(0, 0, 0, 0, 0);
+        Due.due("two carriers, one at the other desk", x.sitting(0), -10);
+        x.sit(0, 2);
+        x.sit(1, 3);
+        Due.due("at the other desk themselves", x.sitting(0), -3 - 7);
+        x.sit(2, 7);
+        Due.due("nobody there", x.sitting(0), -3);
     }
 
     private static void promise10Breaks() {
@@ -102,6 +116,15 @@ public final class SittingsTest {
         x.sit(0, 5);
         // 2 1 | . 3 || . 0: at 1, 2 and 3 there is no break for 0, and no worth; at 0 there are two
         Due.due("to the front, the least a", x.swap(), 15);
+    }
+
+    private static void promise11SwapNext() {
+        WhoSitsBy x = Due.withPupils(6);
+        x.front(4, true);
+        Due.room(x, "learn 9 a=2&b=4");
+        Due.due("seats side by side at two desks", x.swap(), 34);
+        x.sit(4, 3);
+        Due.due("and then no more", x.swap(), -5);
     }
 
     private static void promise12Best() {

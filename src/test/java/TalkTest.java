@@ -129,7 +129,7 @@ public final class TalkTest {
         Due.due("who begins", x.carries(1, 3), 0);
         Due.due("from both ends", x.carries(5, 0), 2);
         Due.due("from both ends, on", x.carries(5, 1), 2);
-        // ahead of 1 nobody talks twice: without 1 minutes 0 and 1 tell 12 and 0, without 2 4 and 1
+        Due.due("minute 0 alone", x.carries(7, 0), 2);
         Due.due("none told", x.carries(0, 30), 0);
         Due.due("all, on and on", x.carries(7, 30), 1);
     }

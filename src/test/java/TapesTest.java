@@ -28,11 +28,13 @@ public final class TapesTest {
         }
         Due.due("n 0", x.tape(5, 3, 0), 1);
         Due.due("no place", x.item(5, 0, 1), -13);
+        x.item(0, 0, 6);
         x.item(0, 2, 7);
         Due.due("refused", x.tape(0, 1, -1), -14);
         Due.due("changes nothing", x.read(0, 2), 7);
         Due.due("anew", x.tape(0, 0, 3), 1);
         Due.due("all 0", x.read(0, 2), 0);
+        Due.due("all 0, the first", x.read(0, 0), 0);
         Due.due("shorter", x.read(0, 3), WhoSitsBy.NO);
         Due.due("longer again", x.tape(0, 0, 9), 1);
         Due.due("all 0 again", x.read(0, 3), 0);
