@@ -1268,8 +1268,12 @@ public final class WhoSitsBy {
             if (letter < 0 || letter >= facts.length) {
                 return false;
             }
-            int sign = code / 100 % 3;
-            return Integer.compare(facts[letter], code % 100) == sign - 1;
+            int number = code % 100;
+            switch (code / 100 % 3) {
+                case 0: return facts[letter] < number;
+                case 1: return facts[letter] == number;
+                default: return facts[letter] > number;
+            }
         }
     }
 
