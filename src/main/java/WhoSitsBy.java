@@ -247,11 +247,11 @@ public final class WhoSitsBy {
     }
 
     public int carries(int first, int n) {
-        if (now.size == 0) {
-            return NOBODY;
-        }
         if (!now.arePupils(first) || n < 0 || n > CARRY_MINUTES) {
             return BAD;
+        }
+        if (now.size == 0) {
+            return NOBODY;
         }
         int least = 0;
         int leastNoise = noiseWithout(0, first, n);

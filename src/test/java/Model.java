@@ -531,11 +531,11 @@ final class Model {
     }
 
     int carries(int first, int n) {
-        if (all.isEmpty()) {
-            return -5;
-        }
         if (bad(first, n, 30)) {
             return -2;
+        }
+        if (all.isEmpty()) {
+            return -5;
         }
         int best = -1;
         int least = Integer.MAX_VALUE;

@@ -2,6 +2,7 @@
 public final class PupilsTest {
     public static void main(String[] args) {
         promise1New();
+        promise1Refusals();
         promise2Pupil();
         promise2LeastSeat();
         promise3Of();
@@ -34,6 +35,30 @@ public final class PupilsTest {
         Due.due("new: undo", x.undo(), -3);
         Due.due("new: other objects are their own", Due.withPupils(3).count(0), 3);
         Due.due("new: still nobody", x.count(0), 0);
+    }
+
+    // what is answered where nobody is does not go ahead of a refusal
+    private static void promise1Refusals() {
+        WhoSitsBy x = new WhoSitsBy();
+        Due.due("new: carries", x.carries(0, 0), -5);
+        Due.due("new: carries, bits", x.carries(1, 0), -2);
+        Due.due("new: carries, n", x.carries(0, -1), -2);
+        Due.due("new: talk, bits", x.talk(1, 0), -2);
+        Due.due("new: noise, what", x.noise(0, 0, 2), -1);
+        Due.due("new: noise, minute", x.noise(0, 61, 1), -2);
+        Due.due("new: judge, tape", x.judge(6, 0), -1);
+        Due.due("new: best, k", x.best(0), -100001);
+        Due.due("new: next, k", x.next(0), -100001);
+        Due.due("new: cost, rule", x.cost(2), -1);
+        Due.due("new: slips, what", x.slips(2), -1);
+        Due.due("new: lacks, what", x.lacks(2), -1);
+        Due.due("new: sitting, what", x.sitting(3), -100001);
+        Due.due("new: pair", x.pair(0, 0, 0, 0), -100001);
+        Due.due("new: name", x.name(0, 0), -1);
+        Due.due("new: mean, part", x.mean(2), WhoSitsBy.NO);
+        Due.due("new: taken, k", x.taken(0, 7), -2);
+        Due.due("new: taken", x.taken(0, 0), -11);
+        Due.due("new: count, what", x.count(5), -2);
     }
 
     private static void promise2Pupil() {

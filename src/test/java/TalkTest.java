@@ -136,7 +136,11 @@ public final class TalkTest {
 
     private static void promise16Refused() {
         Due.due("nobody", new WhoSitsBy().carries(0, 0), -5);
-        Due.due("nobody, and bits", new WhoSitsBy().carries(1, 0), -5);
+        Due.due("nobody, n 30", new WhoSitsBy().carries(0, 30), -5);
+        Due.due("nobody, and bits", new WhoSitsBy().carries(1, 0), -2);
+        Due.due("nobody, and bits below 0", new WhoSitsBy().carries(-1, 0), -2);
+        Due.due("nobody, n -1", new WhoSitsBy().carries(0, -1), -2);
+        Due.due("nobody, n 31", new WhoSitsBy().carries(0, 31), -2);
         WhoSitsBy x = Due.withPupils(2);
         Due.due("bits", x.carries(4, 0), -2);
         Due.due("bits below 0", x.carries(-1, 0), -2);
