@@ -1,9 +1,15 @@
-/** What the tests share: answers that are due, counted, and texts fed sign by sign. */
+/** What the tests share: answers that are due, the words that ask for them, and texts fed sign by sign. */
 final class Due {
     private static int passed = 0;
     private static int failed = 0;
+    private static String asking = "";
 
     private Due() {
+    }
+
+    /** The words of the document, at a promise or in its terms, that what follows tests. */
+    static void words(int promise, String words) {
+        asking = "promise " + promise + ", \"" + words + "\": ";
     }
 
     static void due(String what, long got, long want) {
@@ -12,7 +18,7 @@ final class Due {
             return;
         }
         failed++;
-        System.out.println(what + " answered " + got + ", due is " + want);
+        System.out.println(asking + what + " answered " + got + ", due is " + want);
     }
 
     static void feed(WhoSitsBy x, String text) {
