@@ -123,6 +123,9 @@ public final class ActsTest {
         row(x, 0, 1, 3, 4);
         Due.due("of a row", x.judge(0, 1), -5);
         Due.due("at its end", x.judge(0, 2), -5);
+        Due.due("beyond its end", x.judge(0, 3), -5);
+        Due.due("below 0", x.judge(0, -1), -5);
+        Due.due("below 0, of nothing", x.judge(1, -1), -5);
         row(x, 0, 1);
         Due.due("of a row of none", x.judge(0, 0), -5);
     }

@@ -12,6 +12,11 @@ final class Due {
         asking = "promise " + promise + ", \"" + words + "\": ";
     }
 
+    /** The rule of LANGUAGE.md that what follows tests. */
+    static void rule(int rule) {
+        asking = "LANGUAGE.md, rule " + rule + ": ";
+    }
+
     static void due(String what, long got, long want) {
         if (got == want) {
             passed++;

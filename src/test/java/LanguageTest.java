@@ -25,9 +25,12 @@ public final class LanguageTest {
         "int judge(int,int)", "int image()", "int undo()", "int act(int,int,int)", "int trace(int)",
         "int taken(int,int)", "int count(int)", "int tape(int,int,int)", "int item(int,int,long)",
         "long read(int,int)", "int shift(int,int,int,int,int)"};
-    private static final String[] FORBIDDEN = {"throw", "throws", "try", "catch", "finally", "synchronized", "assert",
-        "volatile", "native", "transient", "import", "package", "var", "System\\s*\\.\\s*(?!arraycopy)", "Object",
-        "Exception", "equals", "hashCode", "toString", "\\w+Exact", "float", "double", "yield", "this\\s*\\(\\)"};
+    private static final String[] NO_EXCEPTIONS = {"throw", "throws", "try", "catch", "finally", "synchronized",
+        "assert", "\\w*Exception", "\\w*Error", "Throwable", "equals", "hashCode", "toString"};
+    private static final String[] NO_LIBRARY = {"import", "package", "native", "volatile", "transient", "Object",
+        "\\w+Exact"};
+    private static final Set<String> LIBRARY = Set.of("String", "Math.max", "Math.min", "Integer.bitCount",
+        "Long.bitCount", "Long.MIN_VALUE", "System.arraycopy");
 
     public static void main(String[] args) throws IOException {
         String text = Files.readString(SOURCE);
@@ -35,10 +38,12 @@ public final class LanguageTest {
         String bare = text.replaceAll("(?s)/\\*.*?\\*/", " ").replaceAll("//[^\n]*", " ")
             .replaceAll("'(\\\\.|[^'])'", "' '").replaceAll("\"(\\\\.|[^\"])*\"", "\"\"");
         words(bare);
+        library(bare);
         lengths(bare);
         face();
         List<Class<?>> all = new ArrayList<>(Arrays.asList(WhoSitsBy.class.getDeclaredClasses()));
         all.add(WhoSitsBy.class);
+        Due.rule(11);
         Due.due("classes beyond twelve", Math.max(0, all.size() - 12), 0);
         for (Class<?> one : all) {
             insides(one);
@@ -47,6 +52,7 @@ public final class LanguageTest {
     }
 
     private static void signs(String text) {
+        Due.rule(4);
         for (int i = 0; i < text.length(); i++) {
             if (text.charAt(i) > 126 || text.charAt(i) == '\t') {
                 Due.due("a sign that is none, at " + i, text.charAt(i), ' ');
@@ -55,17 +61,41 @@ public final class LanguageTest {
     }
 
     private static void words(String bare) {
-        for (String word : FORBIDDEN) {
-            Matcher found = Pattern.compile("\\b" + word + (word.endsWith(")") ? "" : "\\b")).matcher(bare);
-            Due.due("the word " + word, found.find() ? 1 : 0, 0);
+        Due.rule(6);
+        none(bare, "\\b", NO_EXCEPTIONS);
+        Due.rule(4);
+        none(bare, "\\b", NO_LIBRARY);
+        Due.rule(2);
+        none(bare, "", "->", "::", "@");
+        Due.rule(10);
+        none(bare, "", "\"\" \\+", "\\+ \"\"");
+    }
+
+    private static void none(String bare, String edge, String... words) {
+        for (String word : words) {
+            Due.due(word, Pattern.compile(edge + word + edge).matcher(bare).find() ? 1 : 0, 0);
         }
-        for (String sign : new String[] {"->", "::", "@", "\"\" +", "+ \"\"", "List.of"}) {
-            Due.due("the sign " + sign, bare.contains(sign) ? 1 : 0, 0);
+    }
+
+    // what has a name of a class is one of ours, or stands in the list
+    private static void library(String bare) {
+        Due.rule(4);
+        Set<String> own = new TreeSet<>();
+        own.add("WhoSitsBy");
+        for (Class<?> one : WhoSitsBy.class.getDeclaredClasses()) {
+            own.add(one.getSimpleName());
+        }
+        Matcher used = Pattern.compile("\\b([A-Z]\\w*[a-z]\\w*)(\\.\\w+)?").matcher(bare);
+        while (used.find()) {
+            boolean known = own.contains(used.group(1)) || LIBRARY.contains(used.group(1))
+                || LIBRARY.contains(used.group());
+            Due.due("use of " + used.group(), known ? 1 : 0, 1);
         }
     }
 
     // a method begins on a line indented by 4 or 8 that ends with ") {", and ends where a line is its bracket
     private static void lengths(String bare) {
+        Due.rule(11);
         String[] lines = bare.split("\n", -1);
         for (int i = 0; i < lines.length; i++) {
             Matcher head = Pattern.compile("^( {4}| {8})(?! )(?!if|for|while|switch|return|static \\{).*\\) \\{\\s*$")
@@ -90,6 +120,7 @@ public final class LanguageTest {
     }
 
     private static void face() {
+        Due.rule(1);
         Set<String> due = new TreeSet<>(Arrays.asList(FACE));
         Set<String> there = new TreeSet<>();
         Set<String> names = new TreeSet<>();
@@ -128,12 +159,14 @@ public final class LanguageTest {
     }
 
     private static void insides(Class<?> one) {
+        Due.rule(2);
         int inside = one.getModifiers();
         if (one != WhoSitsBy.class) {
             Due.due(one + " is static", Modifier.isStatic(inside) ? 1 : 0, 1);
             Due.due(one + " is open", Modifier.isPublic(inside) || Modifier.isProtected(inside) ? 1 : 0, 0);
             Due.due(one + " has classes", one.getDeclaredClasses().length, 0);
         }
+        Due.rule(5);
         int fields = 0;
         for (Field field : one.getDeclaredFields()) {
             boolean of = Modifier.isStatic(field.getModifiers());
@@ -142,6 +175,7 @@ public final class LanguageTest {
             Due.due("static and not final, or no constant: " + field, !of || Modifier.isFinal(field.getModifiers())
                 && (type.isPrimitive() || type == String.class) ? 0 : 1, 0);
         }
+        Due.rule(11);
         Due.due("fields beyond twenty of " + one, Math.max(0, fields - 20), 0);
         List<Executable> all = new ArrayList<>(Arrays.asList(one.getDeclaredMethods()));
         all.addAll(Arrays.asList(one.getDeclaredConstructors()));

@@ -14,6 +14,7 @@ public final class RoomsTest {
         promise8Within();
         promise8Text();
         promise8Empty();
+        promise8Ten();
         promise8Newest();
         promise8Full();
         promise8Hush();
@@ -292,7 +293,31 @@ public final class RoomsTest {
         x.pupil(0, 0, 0, 0, 0);
         Due.due("no bar of it", x.pair(0, 1, 0, 2), 0);
         Due.due("no learn of it", x.pair(0, 1, 0, 0), 0);
-        Due.due("its number was not taken", Due.room(x, "bar a<9"), 2);
+        Due.due("its number was not taken", Due.room(x, "bar a=1"), 2);
+        Due.due("the next has no hush of it", x.sitting(2), 5);
+        Due.due("the next has no learn of it", x.pair(0, 1, 0, 0), 0);
+        Due.due("a clause more than ten", Due.room(x, clauses(10) + ";"), -10 - clauses(10).length());
+        Due.due("ten behind it", Due.room(x, clauses(10)), 3);
+    }
+
+    private static void promise8Ten() {
+        Due.words(8, "CLAUSES, 1 to 10, with ; between");
+        for (int which = 0; which < 10; which++) {
+            WhoSitsBy x = Due.withPupils(2);
+            StringBuilder text = new StringBuilder();
+            for (int c = 0; c < 10; c++) {
+                text.append(c == 0 ? "" : ";").append(c == which ? "bar a<9" : "bar a=9");
+            }
+            Due.room(x, text.toString());
+            Due.due("clause " + which + " of ten holds", x.pair(0, 1, 0, 2), 1);
+        }
+        WhoSitsBy x = Due.withPupils(2);
+        String most = "!!!!a=9|".repeat(11) + "!!!!a<9";
+        for (int i = 0; i < 3; i++) {
+            Due.due("a long fault", Due.room(x, "bar " + most + ";"), -10 - 100);
+        }
+        Due.due("a long room behind it", Due.room(x, "bar " + most), 0);
+        Due.due("its last part holds", x.pair(0, 1, 0, 2), 1);
     }
 
     private static void promise8Newest() {

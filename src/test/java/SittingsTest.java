@@ -443,8 +443,8 @@ public final class SittingsTest {
         x.image();
         x.name(0, 1);
         Due.due("0 names 1", x.sitting(0), 9);
-        Due.room(x, "loud 1 r=0");
-        Due.due("a room", x.sitting(0), 7);
+        Due.room(x, "loud 2 r=0");
+        Due.due("a room", x.sitting(0), 5);
         Due.due("best, in the back", x.best(-1), 9);
         x.undo();
         Due.due("as the image", x.sitting(0), 7);
@@ -455,5 +455,9 @@ public final class SittingsTest {
         x.pupil(0, 0, 9, 0, 0);
         x.pupil(0, 0, 0, 0, 0);
         Due.due("two others", x.sitting(0), 7);
+        x.name(1, -1);
+        Due.due("1 names nobody", x.sitting(0), 0);
+        x.undo();
+        Due.due("1 names 0 again", x.sitting(0), 7);
     }
 }
