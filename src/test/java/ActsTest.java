@@ -309,25 +309,31 @@ public final class ActsTest {
     }
 
     private static void promise27Bodies() {
-        Due.words(27, "0 sits, 1 talks, 2 tells; i its number.");
+        Due.words(27, "PUPIL: 10 sits: x + i. 11 talks: sits(x) - v. 12 tells: talks(x) * 2.");
         act(0, 0, 10, 12, 10);
         act(0, 1, 10, 7, 11, 10);
         act(0, 2, 10, 14, 12, 11, 10);
+        Due.words(27, "HELPING: 20 talks: super.talks(x) ^ 6.");
         act(1, 0, 10, 12, 10);
         act(1, 1, 10, 1, 20, 11, 10);
         act(1, 2, 10, 2, 12, 20, 11, 10);
+        Due.words(27, "TALKER: 30 sits: super.sits(x * 3).");
         act(2, 0, 10, 32, 30, 10);
         act(2, 1, 10, 27, 11, 30, 10);
         act(2, 2, 10, 54, 12, 11, 30, 10);
+        Due.words(27, "WISHED: 40 tells: super.tells(x) + talks(1).");
         act(3, 0, 10, 12, 10);
         act(3, 1, 10, 7, 11, 10);
         act(3, 2, 10, 12, 40, 12, 11, 10, 11, 10);
+        Due.words(27, "LEFT: 50 sits: -super.sits(x). 51 talks: super.talks(x + 1).");
         act(4, 0, 10, -12, 50, 10);
         act(4, 1, 10, -18 ^ 6, 51, 20, 11, 50, 10);
         act(4, 2, 10, (-18 ^ 6) * 2, 12, 51, 20, 11, 50, 10);
+        Due.words(27, "CARRIER: 60 tells: super.tells(x - i).");
         act(5, 0, 10, 32, 30, 10);
         act(5, 1, 10, 27, 11, 30, 10);
         act(5, 2, 10, 42, 60, 12, 11, 30, 10);
+        Due.words(27, "HOPED: 70 talks: super.talks(x) + super.sits(2). 71 sits: super.sits(x) ^ v.");
         act(6, 0, 10, 9, 71, 10);
         act(6, 1, 10, 8, 70, 11, 71, 10, 10);
         act(6, 2, 10, 21, 40, 12, 70, 11, 71, 10, 10, 70, 11, 71, 10, 10);

@@ -19,6 +19,7 @@ public final class RoomsTest {
         promise8Full();
         promise8Hush();
         promise9Letters();
+        promise9Rows();
         promise9MoreOrLess();
         promise9Sentences();
         promise9Together();
@@ -427,6 +428,22 @@ public final class RoomsTest {
         Due.words(9, "r the ROW.");
         number('r', 0, 1, 0, 0);
         number('r', 0, 1, 1, 1);
+    }
+
+    private static void promise9Rows() {
+        Due.words(9, "if they were NEIGHBOURS in a ROW (0, 1), all others being where they are");
+        WhoSitsBy x = Due.withPupils(3);
+        Due.room(x, "learn 3 r=0;loud 4 r=1;bar r=1");
+        int[][] due = {{3, 0, 0, 3}, {0, 4, 1, -4}};
+        for (int seat = 0; seat < 8; seat++) {
+            x.sit(0, seat);
+            for (int row = 0; row < 2; row++) {
+                for (int what = 0; what < 4; what++) {
+                    Due.due("from seat " + seat + ", row " + row + ", " + what, x.pair(0, 1, row, what),
+                        due[row][what]);
+                }
+            }
+        }
     }
 
     private static void promise9MoreOrLess() {
