@@ -284,6 +284,15 @@ public final class LotsTest {
         x = Due.withPupils(8);
         Due.room(x, "learn 1 a<9");
         mean("eight: each has a neighbour", x, 8, 1);
+        x = Due.withPupils(2);
+        x.image();
+        Due.room(x, "learn 7 a<9");
+        x.pupil(0, 0, 0, 0, 0);
+        mean("three", x, 6, 1);
+        x.undo();
+        mean("two, and no room", x, 0, 1);
+        Due.room(x, "learn 1 a<9");
+        mean("two, and a room", x, 2, 7);
         x = Due.withPupils(7);
         Due.room(x, "learn 1 a<9&r=0");
         mean("seven, half of them in front", x, 3, 1);

@@ -93,6 +93,14 @@ public final class RoomsTest {
         }
         String hundred = "bar " + "a<1|".repeat(24);
         fault(hundred, 100);
+        // what stood behind that end in a text ahead is no part of it
+        String whole = "loud 12 a=1|b=2&!(k>3);hush 45";
+        for (int end = 0; end <= whole.length(); end++) {
+            WhoSitsBy x = new WhoSitsBy();
+            Due.due("a longer text", Due.room(x, whole + "x"), -10 - whole.length());
+            Due.due("the first " + end + " of " + whole, Due.room(x, whole.substring(0, end)),
+                Due.room(new WhoSitsBy(), whole.substring(0, end)));
+        }
     }
 
     // the last byte is the first with which no room begins
@@ -106,6 +114,12 @@ public final class RoomsTest {
         for (String text : late) {
             fault(text, text.length() - 1);
             fault(text + "a=1", text.length() - 1);
+        }
+        String[] cut = {"l", "lear", "lo", "lou", "b", "ba", "h", "hus"};
+        for (String word : cut) {
+            fault(word + " 5 a=1", word.length());
+            fault(word + " a=1", word.length());
+            fault(word + " 5", word.length());
         }
         Due.words(8, "-10 less the FAULT");
         fault("", 0);
@@ -475,6 +489,9 @@ public final class RoomsTest {
         holds("((((a=1))))", 1, 0, 0, true);
         holds("!(!(a=1&b=0))", 1, 0, 0, true);
         holds("!!!!a=1", 0, 1, 0, false);
+        holds("a=0&(b=1|a<0)", 0, 1, 0, true);
+        holds("a<0|a=0&!a<0", 0, 1, 0, true);
+        holds("!(a<0|b<0)&!r<0", 0, 1, 0, true);
     }
 
     private static void promise9Together() {

@@ -64,6 +64,18 @@ public final class SittingsTest {
                 Due.due("nor barred at " + seat, x.sitting(1), 0);
             }
         }
+        x = Due.withPupils(2);
+        Due.room(x, "learn 50 a<9;bar a<9");
+        x.sit(0, 7);
+        x.sit(1, 4);
+        x.image();
+        for (int p = 2; p < 8; p++) {
+            x.pupil(2, 9, 9, 9, 0);
+        }
+        Due.due("eight", x.sitting(1), 4);
+        x.undo();
+        Due.due("two, each alone where eight were", x.sitting(0), 0);
+        Due.due("nor barred where eight were", x.sitting(1), 0);
         x = Due.withPupils(4);
         Due.room(x, "learn 50 a<9");
         for (int p = 0; p < 4; p++) {
