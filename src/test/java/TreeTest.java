@@ -215,7 +215,9 @@ public final class TreeTest extends TreePathScanner<Void, ExecutableElement> {
                 Due.rule(8);
                 Due.due("a method that recurs and is not private: " + next.method,
                     next.method.getModifiers().contains(Modifier.PRIVATE) ? 1 : 0, 1);
-                Due.due("a recursion without a depth: " + next.method, next.method.getParameters().size() > 0 ? 1 : 0, 1);
+                boolean counts = next.method.getParameters().stream()
+                    .anyMatch(each -> each.asType().getKind() == TypeKind.INT);
+                Due.due("a recursion without an int that could be its depth: " + next.method, counts ? 1 : 0, 1);
             }
         }
         open.remove(open.size() - 1);
